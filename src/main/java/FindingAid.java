@@ -263,8 +263,7 @@ public final class FindingAid {
     }
 
     public int print() {
-        page.length = 0;
-        page.writeFrom(here, notes, 0, 0);
+        page.write(here, notes);
         return page.length;
     }
 
@@ -563,7 +562,7 @@ public final class FindingAid {
         private boolean readDepth(int i) {
             int most = i == 0 ? 0 : Math.min(MOST_DEPTH, levels.depth[i - 1] + 1);
             int depth = 0;
-            while (depth < most && current() == '+') {
+            while (depth < most && ahead(0) == '+') {
                 depth++;
                 next++;
             }
@@ -576,7 +575,7 @@ public final class FindingAid {
         }
 
         private boolean readKind(int i) {
-            int kind = indexIn(KIND_SIGNS, current());
+            int kind = indexIn(KIND_SIGNS, ahead(0));
             int above = levels.above[i];
             if (kind == NONE) {
                 return wrongAt(next);
@@ -598,21 +597,21 @@ public final class FindingAid {
             if (!expect(SPACE)) {
                 return false;
             }
-            for (int k = 0; k < MOST_LETTERS && isLetter(current()); k++) {
-                levels.addTitleSign(i, current());
+            for (int k = 0; k < MOST_LETTERS && isLetter(ahead(0)); k++) {
+                levels.addTitleSign(i, ahead(0));
                 next++;
             }
             return levels.titleLength[i] > 0 || wrongAt(next);
         }
 
         private boolean readDate(int i) {
-            if (current() != SPACE || signAt(next + 1) != 'd') {
+            if (ahead(0) != SPACE || ahead(1) != 'd') {
                 return true;
             }
             next += 2;
             int first = readYear(EARLIEST_YEAR);
             int last = first;
-            if (first != NONE && current() == '-') {
+            if (first != NONE && ahead(0) == '-') {
                 next++;
                 last = readYear(first);
             }
@@ -621,7 +620,7 @@ public final class FindingAid {
             }
             levels.firstYear[i] = first;
             levels.lastYear[i] = last;
-            if (current() == '?') {
+            if (ahead(0) == '?') {
                 levels.doubt[i] = 1;
                 next++;
             }
@@ -629,7 +628,7 @@ public final class FindingAid {
         }
 
         private boolean readExtent(int i) {
-            if (current() != SPACE) {
+            if (ahead(0) != SPACE) {
                 return true;
             }
             next++;
@@ -640,7 +639,7 @@ public final class FindingAid {
             if (levels.amount[i] == NONE) {
                 return false;
             }
-            levels.unit[i] = indexIn(UNIT_SIGNS, current());
+            levels.unit[i] = indexIn(UNIT_SIGNS, ahead(0));
             if (levels.unit[i] == NONE) {
                 return wrongAt(next);
             }
@@ -651,11 +650,12 @@ public final class FindingAid {
         /** 1 to 4 digits, not 0 first; NONE, and WRONG, if there are none such. */
         private int readDigits() {
             int value = 0;
-            for (int k = 0; k < MOST_DIGITS && isDigit(current()); k++) {
-                if (k == 0 && current() == '0') {
+            for (int k = 0; k < MOST_DIGITS && isDigit(ahead(0)); k++) {
+                int digit = ahead(0) - '0';
+                if (k == 0 && digit == 0) {
                     break;
                 }
-                value = value * 10 + (current() - '0');
+                value = value * 10 + digit;
                 next++;
             }
             if (value == 0) {
@@ -669,7 +669,7 @@ public final class FindingAid {
         private int readYear(int least) {
             int value = 0;
             for (int k = 0; k < YEAR_DIGITS; k++) {
-                int c = signAt(next + k);
+                int c = ahead(k);
                 if (!isDigit(c)) {
                     wrong = next + k;
                     return NONE;
@@ -685,7 +685,7 @@ public final class FindingAid {
         }
 
         private boolean expect(int c) {
-            if (current() != c) {
+            if (ahead(0) != c) {
                 return wrongAt(next);
             }
             next++;
@@ -697,12 +697,9 @@ public final class FindingAid {
             return false;
         }
 
-        private int current() {
-            return signAt(next);
-        }
-
-        /** NONE at the end of the text, which no sign is, so that it fits nowhere. */
-        private int signAt(int where) {
+        /** The sign so many places on; at the text's end NONE, which fits nowhere. */
+        private int ahead(int places) {
+            int where = next + places;
             if (where < 0 || where >= length) {
                 return NONE;
             }
@@ -859,15 +856,20 @@ public final class FindingAid {
         final int[] signs = new int[MOST_LEVELS * LONGEST_LINE];
         int length = 0;
 
+        void write(Levels levels, Notes notes) {
+            length = 0;
+            writeFrom(this, levels, notes, 0, 0);
+        }
+
         /** A level, if it is PUBLISHED, and behind it those under it; the depth ends the recursion. */
-        void writeFrom(Levels levels, Notes notes, int i, int depth) {
+        private static void writeFrom(Page page, Levels levels, Notes notes, int i, int depth) {
             if (depth > MOST_DEPTH || !levels.has(i) || notes.hidden[i]) {
                 return;
             }
-            writeLine(levels, i);
+            page.writeLine(levels, i);
             int last = levels.nextUnder(i, NONE);
             for (int n = 0; n < levels.count && last != NONE; n++) {
-                writeFrom(levels, notes, last, depth + 1);
+                writeFrom(page, levels, notes, last, depth + 1);
                 last = levels.nextUnder(i, last);
             }
         }

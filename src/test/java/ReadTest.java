@@ -39,14 +39,16 @@ public final class ReadTest {
         x.restrict(1, 0, 7);
         x.name(2, 33);
         x.move(2, 3);
-        x.published(1, false);
         Due.merge(x, "f1 x\n");
         x.print();
+        x.published(1, false);
         return x;
     }
 
     private static void newLevelsComeClean(Due due) {
         FindingAid x = full();
+        x.published(0, false);
+        x.restrict(0, 3, 8);
         due.same("read()", Due.read(x, "s9 q\n+s8 r\n++u7 t\n"), 3);
         due.same("place()", x.place(), -1);
         due.same("level(0, 0)", x.level(0, 0), 1);
@@ -54,6 +56,7 @@ public final class ReadTest {
         due.same("level(0, 7)", x.level(0, 7), -1);
         due.same("level(3, 0)", x.level(3, 0), -1);
         due.same("restricted(1, 0)", x.restricted(1, 0), 0);
+        due.same("restricted(0, 3)", x.restricted(0, 3), 0);
         due.same("named(33, 0)", x.named(33, 0), -1);
         due.same("name(2, 33)", x.name(2, 33), 1);
         due.same("was(2, 0)", x.was(2, 0), -1);
@@ -61,6 +64,12 @@ public final class ReadTest {
         due.same("print()", Due.printed(x), "s9 q\n+s8 r\n++u7 t\n");
         due.same("ask(0, 1), of before", x.ask(0, 1), 7);
         due.same("take(0), of before", x.take(0), 0);
+        FindingAid y = new FindingAid();
+        for (int n = 0; n < 4; n++) {
+            String parts = n % 2 == 0 ? " abc d1900-1901? e5m\n" : " d\n";
+            due.same("read() once more", Due.read(y, "f1" + parts + "+s1" + parts), 2);
+            due.same("print()", Due.printed(y), "f1" + parts + "+s1" + parts);
+        }
     }
 
     private static void wrongTextLeavesAll(Due due) {
