@@ -65,8 +65,8 @@ public final class ReadTest {
         due.same("ask(0, 1), of before", x.ask(0, 1), 7);
         due.same("take(0), of before", x.take(0), 0);
         FindingAid y = new FindingAid();
-        for (int n = 0; n < 4; n++) {
-            String parts = n % 2 == 0 ? " abc d1900-1901? e5m\n" : " d\n";
+        for (int n = 0; n < 7; n++) {
+            String parts = n % 3 == 0 ? " abc d1900-1901? e5m\n" : " d\n";
             due.same("read() once more", Due.read(y, "f1" + parts + "+s1" + parts), 2);
             due.same("print()", Due.printed(y), "f1" + parts + "+s1" + parts);
         }
