@@ -69,6 +69,7 @@ public final class ReadTest {
             String parts = n % 3 == 0 ? " abc d1900-1901? e5m\n" : " d\n";
             due.same("read() once more", Due.read(y, "f1" + parts + "+s1" + parts), 2);
             due.same("print()", Due.printed(y), "f1" + parts + "+s1" + parts);
+            due.same("level(1, 6)", y.level(1, 6), n % 3 == 0 ? 1 : 0);
         }
     }
 
