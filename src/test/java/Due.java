@@ -22,6 +22,33 @@ final class Due {
         }
     }
 
+    /** A text is WRONG where a `^` stands in it (the mark itself is not told), for read() and merge(). */
+    void wrong(String marked) {
+        int place = marked.indexOf('^');
+        wrong(marked.substring(0, place) + marked.substring(place + 1), place);
+    }
+
+    void wrong(String text, int place) {
+        FindingAid x = new FindingAid();
+        same("read() of " + text, read(x, text), THROWS);
+        same("place() of " + text, x.place(), place);
+        FindingAid y = new FindingAid();
+        same("merge() of " + text, merge(y, text), THROWS);
+        same("place() of merged " + text, y.place(), place);
+    }
+
+    /** A text is right, and has as many levels as lines. */
+    FindingAid right(String text) {
+        FindingAid x = new FindingAid();
+        long lines = text.chars().filter(c -> c == '\n').count();
+        same("read() of " + text, read(x, text), lines);
+        same("place() of " + text, x.place(), -1);
+        FindingAid y = new FindingAid();
+        same("merge() of " + text, merge(y, text), 0);
+        same("place() of merged " + text, y.place(), -1);
+        return x;
+    }
+
     void end() {
         if (wrong != 0 || seen == 0) {
             System.out.println(wrong + " of " + seen + " answers are not as due");

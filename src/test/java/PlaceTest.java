@@ -14,22 +14,12 @@ public final class PlaceTest {
         DUE.end();
     }
 
-    /** The wrong sign stands behind a `^` in the text; the mark itself is not told. */
     private static void wrong(String marked) {
-        int place = marked.indexOf('^');
-        String text = marked.substring(0, place) + marked.substring(place + 1);
-        FindingAid x = new FindingAid();
-        DUE.same("read() of " + marked, Due.read(x, text), Due.THROWS);
-        DUE.same("place() of " + marked, x.place(), place);
-        FindingAid y = new FindingAid();
-        DUE.same("merge() of " + marked, Due.merge(y, text), Due.THROWS);
-        DUE.same("place() of merged " + marked, y.place(), place);
+        DUE.wrong(marked);
     }
 
     private static void right(String text) {
-        FindingAid x = new FindingAid();
-        DUE.same("read() of " + text, Due.read(x, text) > 0 ? 1 : 0, 1);
-        DUE.same("place() of " + text, x.place(), -1);
+        DUE.right(text);
     }
 
     private static void starts() {

@@ -1,3 +1,6 @@
+import java.util.List;
+import java.util.function.Supplier;
+
 /** Promise 3: levels take the place of those before, with all that was told of these. */
 public final class ReadTest {
     private static final String FIRST = "f1 a d1900 e5b\n+s2 b\n++u3 c\n+s2 d\n";
@@ -7,6 +10,7 @@ public final class ReadTest {
         rightTexts(due);
         newLevelsComeClean(due);
         wrongTextLeavesAll(due);
+        nothingOfBeforeIsLeft(due);
         due.end();
     }
 
@@ -90,5 +94,22 @@ public final class ReadTest {
         due.same("print()", Due.printed(x), "f1 a d1900 e5b\n+s2 d\n++u3 c\n");
         due.same("take(0)", x.take(0), 1);
         due.same("letter(0, 0)", x.letter(0, 0), 'x');
+    }
+
+    /** Levels read into a used object are as those read into a new one, in all that can be asked. */
+    private static void nothingOfBeforeIsLeft(Due due) {
+        String[] texts = {"i9 z\n", "f1 ab\n+s2 c\n++u3 d\n+++i4 e\n+s2 f\n++u3 g\n+i9 h\n", deep(8), "f1 a\n" + "+u3 b e2b\n".repeat(99)};
+        List<Supplier<FindingAid>> states = List.of(States::empty, States::usedAndRead, States::deep, States::full, States::readAnew);
+        for (String text : texts) {
+            FindingAid fresh = Due.of(text);
+            fresh.print();
+            String whole = Whole.butAsks(fresh);
+            for (Supplier<FindingAid> state : states) {
+                FindingAid x = state.get();
+                due.same("read() of " + text, Due.read(x, text), text.split("\n").length);
+                x.print();
+                due.same("all of it", Whole.butAsks(x), whole);
+            }
+        }
     }
 }
