@@ -1,4 +1,4 @@
-/** What is full: signs, levels, letters, headings, moves, asks, print; and what there is room for again. */
+/** What is full: signs, levels, letters, headings, moves, asks, sums, calls; and what has room again. */
 public final class EdgeFullTest {
     private static final Due DUE = new Due();
     private static final String LINE = "+u1000 abcdefghijklmnop d1900-1901? e1000b\n";
@@ -17,6 +17,7 @@ public final class EdgeFullTest {
         moves();
         asks();
         extents();
+        calls();
         DUE.end();
     }
 
@@ -193,5 +194,18 @@ public final class EdgeFullTest {
         DUE.same("differ(1)", y.differ(1), -1);
         FindingAid z = Due.of("f1 a e99b\n" + "+u1 a e1b\n".repeat(99));
         DUE.same("differ(0), the sum is right", z.differ(0), -1);
+    }
+
+    /** An object is used for 512 calls: the last one is answered as any other. */
+    private static void calls() {
+        String text = "f1 a\n" + "+u10 abcde\n".repeat(46);
+        DUE.same("length", text.length(), 511);
+        DUE.same("read() as call 512", Due.read(new FindingAid(), text), 47);
+        FindingAid x = Due.of("f1 a\n+u2 b\n");
+        int made = 12;
+        for (; made < 511; made++) {
+            x.move(1, 0);
+        }
+        DUE.same("was(1, 4) as call 512", x.was(1, 4), 0);
     }
 }

@@ -83,7 +83,7 @@ public final class FaceTest {
         }
         for (Class<?> inside : FindingAid.class.getDeclaredClasses()) {
             for (Method m : inside.getDeclaredMethods()) {
-                if (face.contains(m.getName())) {
+                if (Modifier.isPrivate(m.getModifiers()) && face.contains(m.getName())) {
                     again.add(inside.getSimpleName() + "." + m.getName());
                 }
             }

@@ -5,6 +5,7 @@ public final class MergeTest {
         differences(due);
         paths(due);
         taking(due);
+        allThreeAreTaken(due);
         takenOrReadAnew(due);
         wrongOnes(due);
         mostAsks(due);
@@ -96,6 +97,25 @@ public final class MergeTest {
         y.move(2, 1);
         due.same("take(0) after a move", y.take(0), 1);
         due.same("print()", Due.printed(y), "f1 a\n+s1 b\n++u2 z\n");
+    }
+
+    /** Also what did not differ when it was asked: another ASK of the level may have changed it since. */
+    private static void allThreeAreTaken(Due due) {
+        FindingAid x = Due.of("f1 a\n+s1 b d1900 e1b\n");
+        due.same("merge()", Due.merge(x, "f1 a\n+s1 z d1900 e1b\n+s1 b d1950? e1b\n+s1 b d1900 e9p\n+s1 c\n"), 4);
+        asks(due, x, new int[] {1, 1}, new int[] {1, 2}, new int[] {1, 4}, new int[] {1, 7});
+        String[] parts = {"z d1900 e1b", "b d1950? e1b", "b d1900 e9p", "c"};
+        for (int i : new int[] {0, 1, 2, 3}) {
+            due.same("take(" + i + ")", x.take(i), 1);
+            due.same("print()", Due.printed(x), "f1 a\n+s1 " + parts[i] + "\n");
+        }
+        FindingAid y = Due.of("f1 a\n+s1 b d1900 e1b\n");
+        Due.merge(y, "f1 a\n+s1 c\n+s1 b d1950? e1b\n");
+        y.print();
+        due.same("take(0)", y.take(0), 1);
+        due.same("what was printed before", Due.latest(y, 21), "f1 a\n+s1 b d1900 e1b\n");
+        due.same("take(1)", y.take(1), 1);
+        due.same("print()", Due.printed(y), "f1 a\n+s1 b d1950? e1b\n");
     }
 
     private static void takenOrReadAnew(Due due) {
