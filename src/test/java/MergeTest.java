@@ -3,6 +3,7 @@ public final class MergeTest {
     public static void main(String[] args) {
         Due due = new Due();
         differences(due);
+        titlesEndWhereTheyEnd(due);
         paths(due);
         taking(due);
         allThreeAreTaken(due);
@@ -49,6 +50,28 @@ public final class MergeTest {
         differs(due, "a d1900 e1b", "b d1900 e2b", 5);
         differs(due, "a d1900 e1b", "a d1901 e1m", 6);
         differs(due, "a d1900 e1b", "b", 7);
+    }
+
+    /** What stands behind a TITLE, of the next level or of a text before, is none of it. */
+    private static void titlesEndWhereTheyEnd(Due due) {
+        FindingAid x = Due.of("f1 abcdefghijklmnop\n+s1 b\n+s2 abcdefghijklmnop\n");
+        due.same("merge()", Due.merge(x, "f1 abcdefghijklmnop\n+s1 c\n+s2 abcdefghijklmnop\n"), 1);
+        asks(due, x, new int[] {1, 1});
+        FindingAid y = new FindingAid();
+        for (int n = 0; n < 4; n++) {
+            Due.read(y, "f1 abcd\n");
+            Due.merge(y, "f1 wxyz\n");
+            for (int m = 0; m < 3; m++) {
+                Due.read(y, "f1 a\n");
+                due.same("merge() of the same", Due.merge(y, "f1 a\n"), 0);
+                due.same("merge() of a longer one", Due.merge(y, "f1 ab\n"), 1);
+                due.same("merge() of the same", Due.merge(y, "f1 a\n"), 0);
+            }
+            Due.read(y, "f1 qrst\n");
+        }
+        String full = "f1 a\n" + "+i1 a\n".repeat(98) + "+i2 abcdefghijklmnop\n";
+        FindingAid z = Due.of(full);
+        due.same("merge() of the last one's 16 letters", Due.merge(z, full), 0);
     }
 
     private static void paths(Due due) {
